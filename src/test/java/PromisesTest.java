@@ -102,6 +102,9 @@ public final class PromisesTest {
         reads("l1; l1;", -14);
         reads("a1;d0;a1;", -16);
         reads("rr1;", -10);
+        reads("dz1;", -10);
+        reads("zd1;", -10);
+        reads("d1z;", -12);
     }
 
     private static void faultsOfNumbers() {
@@ -186,6 +189,28 @@ public final class PromisesTest {
         due("trace() is not told", x.trace(), 11);
         due("an empty text", x.sentence(), 0);
         nows("none told", x, 0, 20, 0, 0, 0, 0, 1, 0);
+        counts("none told", x, 0, 0, 0, 2, 3, 0, 0, 0);
+        Check.typed(x, "b1 0 0 2;r7;l0;a1;h1 1;");
+        due("told once more", x.sentence(), 5);
+        counts("told once more", x, 0, 1, 1, 0, 1, 0, 0, 0);
+        due("now(1)", x.now(1), 7);
+        due("bribe(0, 3)", x.bribe(0, 3), 2);
+        fewerAreTold();
+    }
+
+    private static void fewerAreTold() {
+        TowerPrisoner x = new TowerPrisoner();
+        for (String text : new String[] {"b0 0 5 9;b0 0 5 9;h9 1;h9 1;", "b0 0 5 9;b0 0 5 9;h9 1;h9 1;",
+            "d0;d0;b0 0 5 1;h2 1;r14;"}) {
+            Check.typed(x, text);
+            due("items", x.sentence() > 0 ? 1 : 0, 1);
+        }
+        due("safe(0) by one bribe", x.safe(0), 1);
+        due("least(2, 0) by one trade", x.least(2, 0), 18);
+        x.winds(3, 0);
+        nows("one bribe, one trade", x, 1, 7, 3, 1, 6, 0, 0, 0);
+        due("mark(0, 1)", x.mark(0, 1), NO);
+        due("pays(1, 1)", x.pays(1, 1), BAD);
     }
 
     private static void parts() {
@@ -371,6 +396,10 @@ public final class PromisesTest {
         due("corrects(-9) once more", x.corrects(-9), -9);
         due("corrects(-1)", x.corrects(-1), NO);
         due("corrects(5)", x.corrects(5), -4);
+        due("corrects(10) from below 0", x.corrects(10), NO);
+        due("corrects(9) from below 0", x.corrects(9), 5);
+        due("corrects(-10) from above 0", x.corrects(-10), NO);
+        x.undo();
         due("count(6)", x.count(6), 4);
         x.winds(0, 0);
         due("corrects(1), FREE", x.corrects(1), NO);
@@ -464,6 +493,7 @@ public final class PromisesTest {
         chanceIs(x, 1, 7, 10, 3);
         chanceIs(x, 2, 1, 1, -2);
         chanceIs(x, 8, 1, 1, -2);
+        chanceIs(x, 0, 0, 1, NONE);
         x = told("d3;d5;r12;l2;a3;");
         chanceIs(x, 1, 0, 1, -2);
         // 1 and 3, or 2 and 2: found by 5 of 10 at last.
@@ -484,6 +514,22 @@ public final class PromisesTest {
         chanceIs(x, 1, 0, 1, -2);
         x.winds(0, 2);
         chanceIs(x, 1, 0, 1, NONE);
+        x = told("d0;d0;r8;");
+        x.corrects(-9);
+        chanceIs(x, 2, 1, 1, 0);
+        x.winds(0, 0);
+        chanceIs(x, 1, 1, 1, 0);
+    }
+
+    private static void chancesOfTheFound() {
+        // Only -2 is right at the end of the first day, and leaves 1.
+        TowerPrisoner x = told("d10;d10;r3;l0;a9;");
+        x.corrects(2);
+        chanceIs(x, 2, 1, 1, -2);
+        // He is surely found, and a day from 0 by 2 shows 6 unfound.
+        x = told("d10;d10;r11;l2;a1;");
+        x.corrects(5);
+        chanceIs(x, 2, 1, 1, 2);
     }
 
     private static void chancesOfManyDays() {
@@ -514,6 +560,8 @@ public final class PromisesTest {
         // By pace 2, for a candle, he would be free ahead of the third day, which brings five.
         due("safe(0), till he is free", x.safe(0), 5);
         due("safe(1), till he is free", x.safe(1), -2);
+        due("REST is 1 behind a day", told("d9;d9;b1 0 5 9;r5;l0;").safe(0), 9);
+        due("REST is 0 behind a day", told("d9;d9;b0 0 5 3;b1 0 5 9;r4;l0;").safe(0), 3);
         x = told("d9;d9;b1 0 5 7;r4;");
         x.winds(0, 0);
         due("safe(0), FREE", x.safe(0), 0);
@@ -564,6 +612,26 @@ public final class PromisesTest {
         due("least(2, 1), slow", x.least(2, 1), 3);
         due("least(1, 0), slow", x.least(1, 0), NONE);
         due("checks don't count", told("d10;d10;h1 1;r14;l0;a9;").least(2, 0), 9);
+        leastAtTheEdges();
+    }
+
+    private static void leastAtTheEdges() {
+        TowerPrisoner x = told("d0;d0;d0;h1 1;r21;");
+        due("too few days", x.least(1, 0), NONE);
+        due("too few days again", x.least(1, 0), NONE);
+        due("3, 6 and 9", x.least(3, 0), 18);
+        x = told("d0;d0;h1 1;r12;");
+        x.corrects(-9);
+        due("0 at first is too little", x.least(2, 1), 1);
+        x = told("d0;d0;h1 1;r8;");
+        due("safe(0) ahead of it", x.safe(0), 0);
+        x.corrects(9);
+        due("least(2, 0) at 9", x.least(2, 0), 16);
+        due("least(2, 1) at 9", x.least(2, 1), -2);
+        x.corrects(-9);
+        x.corrects(-9);
+        due("least(2, 0) at -9", x.least(2, 0), 0);
+        due("least(2, 1) at -9", x.least(2, 1), 0);
     }
 
     private static void catches() {
@@ -586,6 +654,8 @@ public final class PromisesTest {
         due("catches(0), it is NOW", x.catches(0), 0);
         due("catches(4) is BAD", x.catches(4), BAD);
         due("catches(3), OVER", new TowerPrisoner().catches(3), NONE);
+        due("REST is 1 behind a day", told("d0;d0;d0;r6;l1;").catches(1), 2);
+        due("REST is 0 behind a day", told("d0;d0;d0;r5;l1;").catches(1), NONE);
         // The turn that frees him lets ERROR be above LIMIT: he is not FREE ahead of that.
         due("free by the same turn", told("d0;r7;l2;").catches(3), 1);
         due("free a turn ahead", told("d0;d0;r7;l3;").catches(3), NONE);
@@ -620,6 +690,10 @@ public final class PromisesTest {
         due("could(0)", x.could(0), 0b111111 << 7);
         due("forget()", x.forget(), 6);
         due("could(1)", x.could(1), 0b11111111111 << 5);
+        x.hears(10, 0, 0);
+        due("could(9)", x.could(9), 0b111111 << 6);
+        due("could(8)", x.could(8), 0b11111111111 << 3);
+        due("could(11)", x.could(11), 0b111111 << 7);
     }
 
     private static void coulds() {
@@ -658,6 +732,9 @@ public final class PromisesTest {
         due("ways() to 0", x.ways(), 289464);
         x.hears(6, -4, 1);
         due("ways() by day 6", x.ways(), 744937);
+        x.forget();
+        x.hears(0, 3, 0);
+        due("ways() by day 0", x.ways(), 280877);
         x.forget();
         for (int d = 2; d <= 10; d += 4) {
             x.hears(d, d == 6 ? -9 : 9, 0);
@@ -773,6 +850,7 @@ public final class PromisesTest {
         freeUndone();
         soonest();
         chances();
+        chancesOfTheFound();
         chancesOfManyDays();
         safe();
         least();
