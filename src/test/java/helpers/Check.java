@@ -2,8 +2,18 @@
 final class Check {
     private static int looked = 0;
     private static int wrong = 0;
+    private static String test = "";
 
     private Check() {
+    }
+
+    /** From here on it is this test that looks. */
+    static void under(String name) {
+        test = name.isEmpty() ? "" : name + ": ";
+    }
+
+    static int looked() {
+        return looked;
     }
 
     static void due(String call, long got, long want) {
@@ -11,7 +21,7 @@ final class Check {
         if (got != want) {
             wrong++;
             if (wrong <= 40) {
-                System.out.println(call + " answered " + got + ", due is " + want);
+                System.out.println(test + call + " answered " + got + ", due is " + want);
             }
         }
     }
