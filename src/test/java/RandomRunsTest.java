@@ -1,6 +1,21 @@
 /** Long mixed runs of calls on the class and on the model of the document, side by side. */
 public final class RandomRunsTest {
+    // Nothing is promised behind the 512th call of an object.
+    private static final int CALLS_MOST = 512;
+    private static final int LOOK = 133;
+    private static final int STEP = 30;
+
     private static long seed = 1;
+    private static int calls = 0;
+
+    private static void due(String call, long got, long want) {
+        calls++;
+        Check.due(call, got, want);
+    }
+
+    private static boolean hasRoom(int more) {
+        return calls + more <= CALLS_MOST;
+    }
 
     // A row of numbers of its own, so that every run of the test is the same.
     private static int upTo(int most) {
@@ -80,43 +95,59 @@ public final class RandomRunsTest {
     private static void tell(TowerPrisoner x, Model y, String text) {
         for (int i = 0; i < text.length(); i++) {
             int c = text.charAt(i);
-            Check.due("type(" + c + ")", x.type(c), y.type(c));
+            due("type(" + c + ")", x.type(c), y.type(c));
         }
-        Check.due("sentence() of \"" + text + "\"", x.sentence(), y.sentence());
-        Check.due("clear() behind \"" + text + "\"", x.clear(), y.clear());
+        due("sentence() of \"" + text + "\"", x.sentence(), y.sentence());
+        due("clear() behind \"" + text + "\"", x.clear(), y.clear());
     }
 
     private static void look(String run, TowerPrisoner x, Model y) {
         for (int what = -1; what <= 8; what++) {
-            Check.due(run + "now(" + what + ")", x.now(what), y.now(what));
-            Check.due(run + "count(" + what + ")", x.count(what), y.count(what));
+            due(run + "now(" + what + ")", x.now(what), y.now(what));
+            due(run + "count(" + what + ")", x.count(what), y.count(what));
         }
         for (int d = -1; d <= 14; d++) {
-            Check.due(run + "sun(" + d + ")", x.sun(d), y.sun(d));
+            due(run + "sun(" + d + ")", x.sun(d), y.sun(d));
         }
         for (int i = -1; i <= 6; i++) {
             for (int what = -1; what <= 4; what++) {
                 String of = "(" + i + ", " + what + ")";
-                Check.due(run + "bribe" + of, x.bribe(i, what), y.bribe(i, what));
-                Check.due(run + "trade" + of, x.trade(i, what), y.trade(i, what));
+                due(run + "bribe" + of, x.bribe(i, what), y.bribe(i, what));
+                due(run + "trade" + of, x.trade(i, what), y.trade(i, what));
             }
         }
-        Check.due(run + "trace()", x.trace(), y.trace());
+        due(run + "trace()", x.trace(), y.trace());
+    }
+
+    /** What changes most, and a little of the rest. */
+    private static void glance(String run, TowerPrisoner x, Model y) {
+        for (int what = 0; what < 8; what++) {
+            due(run + "now(" + what + ")", x.now(what), y.now(what));
+        }
+        int n = between(-1, 14);
+        int what = between(-1, 8);
+        due(run + "count(" + what + ")", x.count(what), y.count(what));
+        due(run + "sun(" + n + ")", x.sun(n), y.sun(n));
+        due(run + "bribe(" + n + ", " + what + ")", x.bribe(n, what), y.bribe(n, what));
+        for (int t = 0; t < 4; t++) {
+            due(run + "trade(" + t + ", 2)", x.trade(t, 2), y.trade(t, 2));
+        }
+        due(run + "trace()", x.trace(), y.trace());
     }
 
     private static void plan(String run, TowerPrisoner x, Model y) {
         int n = mostly(0, 8);
         int m = mostly(0, 14);
         int p = mostly(-2, 3);
-        Check.due(run + "soonest()", x.soonest(), y.soonest());
+        due(run + "soonest()", x.soonest(), y.soonest());
         for (int what = -1; what <= 3; what++) {
             String of = n + ", " + what + ")";
-            Check.due(run + "chance(" + of, x.chance(n, what), y.chance(n, what));
+            due(run + "chance(" + of, x.chance(n, what), y.chance(n, what));
             of = m + ", " + what + ")";
-            Check.due(run + "least(" + of, x.least(m, what), y.least(m, what));
-            Check.due(run + "safe(" + what + ")", x.safe(what), y.safe(what));
+            due(run + "least(" + of, x.least(m, what), y.least(m, what));
+            due(run + "safe(" + what + ")", x.safe(what), y.safe(what));
         }
-        Check.due(run + "catches(" + p + ")", x.catches(p), y.catches(p));
+        due(run + "catches(" + p + ")", x.catches(p), y.catches(p));
     }
 
     private static void act(String run, TowerPrisoner x, Model y) {
@@ -126,14 +157,14 @@ public final class RandomRunsTest {
         int t = mostly(0, 3);
         int paid = upTo(3) == 0 ? mostly(1, 99) : between(1, 12);
         switch (upTo(9)) {
-            case 0: Check.due(run + "watches()", x.watches(), y.watches()); break;
+            case 0: due(run + "watches()", x.watches(), y.watches()); break;
             case 1:
-                Check.due(run + "pays(" + t + ", " + paid + ")", x.pays(t, paid), y.pays(t, paid));
+                due(run + "pays(" + t + ", " + paid + ")", x.pays(t, paid), y.pays(t, paid));
                 break;
-            case 2: Check.due(run + "corrects(" + n + ")", x.corrects(n), y.corrects(n)); break;
-            case 3: Check.due(run + "undo()", x.undo(), y.undo()); break;
+            case 2: due(run + "corrects(" + n + ")", x.corrects(n), y.corrects(n)); break;
+            case 3: due(run + "undo()", x.undo(), y.undo()); break;
             default:
-                Check.due(run + "winds(" + pace + ", " + z + ")", x.winds(pace, z),
+                due(run + "winds(" + pace + ", " + z + ")", x.winds(pace, z),
                         y.winds(pace, z));
         }
     }
@@ -144,14 +175,14 @@ public final class RandomRunsTest {
         int w = mostly(0, 3);
         int asked = mostly(0, 13);
         if (upTo(7) == 0) {
-            Check.due(run + "forget()", x.forget(), y.forget());
+            due(run + "forget()", x.forget(), y.forget());
         } else {
-            Check.due(run + "hears(" + day + ", " + error + ", " + w + ")",
+            due(run + "hears(" + day + ", " + error + ", " + w + ")",
                     x.hears(day, error, w), y.hears(day, error, w));
         }
-        Check.due(run + "could(" + asked + ")", x.could(asked), y.could(asked));
-        Check.due(run + "ways()", x.ways(), y.ways());
-        Check.due(run + "ask()", x.ask(), y.ask());
+        due(run + "could(" + asked + ")", x.could(asked), y.could(asked));
+        due(run + "ways()", x.ways(), y.ways());
+        due(run + "ask()", x.ask(), y.ask());
     }
 
     private static void image(String run, TowerPrisoner x, Model y) {
@@ -159,11 +190,11 @@ public final class RandomRunsTest {
         int kind = mostly(0, 5);
         int t = mostly(0, 3);
         if (upTo(1) == 0) {
-            Check.due(run + "keep(" + image + ")", x.keep(image), y.keep(image));
+            due(run + "keep(" + image + ")", x.keep(image), y.keep(image));
         } else {
-            Check.due(run + "back(" + image + ")", x.back(image), y.back(image));
+            due(run + "back(" + image + ")", x.back(image), y.back(image));
         }
-        Check.due(run + "mark(" + kind + ", " + t + ")", x.mark(kind, t), y.mark(kind, t));
+        due(run + "mark(" + kind + ", " + t + ")", x.mark(kind, t), y.mark(kind, t));
     }
 
     private static void step(String run, TowerPrisoner x, Model y) {
@@ -171,28 +202,48 @@ public final class RandomRunsTest {
             case 0: hear(run, x, y); break;
             case 1: case 2: image(run, x, y); break;
             case 3: plan(run, x, y); break;
-            case 4: look(run, x, y); break;
+            case 4: glance(run, x, y); break;
             default: act(run, x, y);
         }
     }
 
-    public static void main(String[] args) {
-        for (int run = 0; run < 500; run++) {
-            TowerPrisoner x = new TowerPrisoner();
-            Model y = new Model();
+    /** Behind the text, as many deeds and questions as there is room for. */
+    private static void part(String name, TowerPrisoner x, Model y, boolean closely) {
+        if (closely && hasRoom(LOOK)) {
+            look(name, x, y);
+        }
+        for (int i = upTo(60); i > 0 && hasRoom(STEP); i--) {
+            step(name, x, y);
+        }
+        if (hasRoom(STEP)) {
+            plan(name, x, y);
+        }
+        if (closely && hasRoom(LOOK)) {
+            look(name, x, y);
+        }
+    }
+
+    private static void run(int run) {
+        TowerPrisoner x = new TowerPrisoner();
+        Model y = new Model();
+        calls = 0;
+        boolean closely = upTo(2) == 0;
+        if (closely) {
             look("run " + run + ": ", x, y);
-            for (int part = upTo(2); part >= 0; part--) {
-                String text = sentence();
-                tell(x, y, upTo(5) == 0 ? spoiled(text) : text);
-                String name = "run " + run + ", \"" + text + "\": ";
-                look(name, x, y);
-                plan(name, x, y);
-                for (int i = upTo(60); i > 0; i--) {
-                    step(name, x, y);
-                }
-                plan(name, x, y);
-                look(name, x, y);
+        }
+        for (int parts = upTo(2); parts >= 0; parts--) {
+            String sentence = sentence();
+            String text = upTo(5) == 0 ? spoiled(sentence) : sentence;
+            if (hasRoom(text.length() + 2 + STEP)) {
+                tell(x, y, text);
+                part("run " + run + ", \"" + text + "\": ", x, y, closely);
             }
+        }
+    }
+
+    public static void main(String[] args) {
+        for (int run = 0; run < 1500; run++) {
+            run(run);
         }
         for (int run = 0; run < 10000; run++) {
             tell(new TowerPrisoner(), new Model(), spoiled(sentence()));

@@ -84,35 +84,62 @@ public final class WildNumbersTest {
 
     private static void refused() {
         for (String text : TEXTS) {
-            TowerPrisoner x = Check.told(text);
-            x.winds(2, 3);
-            x.hears(3, 3, 3);
-            long[] before = state(x);
             for (int n : WILD) {
+                TowerPrisoner x = Check.told(text);
+                x.winds(2, 3);
+                x.hears(3, 3, 3);
+                long[] before = state(x);
                 if (n < -10 || n > 9999) {
                     Check.holds("refused: " + n, wildIsRefused(x, n));
                 }
+                Check.holds("nothing changed", java.util.Arrays.equals(before, state(x)));
             }
-            Check.holds("nothing changed", java.util.Arrays.equals(before, state(x)));
         }
+    }
+
+    private static void tell(TowerPrisoner x) {
+        x.clear();
+        Check.typed(x, TEXTS[upTo(TEXTS.length - 1)]);
+        x.sentence();
+    }
+
+    /** A text has 100 bytes at most here: two of them, and 512 calls are not gone. */
+    private static void within512Calls() {
+        TowerPrisoner x = new TowerPrisoner();
+        for (int i = 0; i < 300; i++) {
+            if (i % 150 == 0) {
+                tell(x);
+            }
+            call(x, upTo(34));
+        }
+        Check.holds("error", Math.abs(x.now(2)) <= 9);
+        Check.holds("rest", x.now(1) >= 0 && x.now(1) <= 99);
+        Check.holds("candles", x.now(3) >= 0 && x.now(3) <= 999);
+        Check.holds("the day", x.now(0) >= 0 && x.now(0) <= x.count(0));
+    }
+
+    /** What is answered behind 512 calls is free, but nothing may be thrown there either. */
+    private static void farBeyond() {
+        TowerPrisoner x = new TowerPrisoner();
+        for (int i = 0; i < 3000; i++) {
+            if (i % 150 == 0) {
+                tell(x);
+            }
+            call(x, upTo(34));
+        }
+        Check.holds("it ended", true);
     }
 
     public static void main(String[] args) {
         refused();
-        for (int run = 0; run < 3000; run++) {
-            TowerPrisoner x = new TowerPrisoner();
-            for (int i = 0; i < 512; i++) {
-                if (i % 128 == 0) {
-                    x.clear();
-                    Check.typed(x, TEXTS[upTo(TEXTS.length - 1)]);
-                    x.sentence();
-                }
-                call(x, upTo(34));
-            }
-            Check.holds("error", Math.abs(x.now(2)) <= 9);
-            Check.holds("rest", x.now(1) >= 0 && x.now(1) <= 99);
-            Check.holds("candles", x.now(3) >= 0 && x.now(3) <= 999);
-            Check.holds("the day", x.now(0) >= 0 && x.now(0) <= x.count(0));
+        for (int run = 0; run < 5000; run++) {
+            within512Calls();
+        }
+        for (int run = 0; run < 100; run++) {
+            farBeyond();
+        }
+        for (String text : TEXTS) {
+            Check.holds("a hundred bytes at most", text.length() <= 100);
         }
         Check.end();
     }

@@ -1,3 +1,6 @@
+import java.util.List;
+import java.util.function.ToLongFunction;
+
 /** Promises 14 to 18, "what he should do": the edges that the document names, one by one. */
 final class AdviceEdges extends Edges {
     // ---- soonest
@@ -76,6 +79,41 @@ final class AdviceEdges extends Edges {
             x.catches(pace);
         }
         same("asked", x, rich());
+    }
+
+    private static final List<ToLongFunction<TowerPrisoner>> ADVICE = List.of(
+            x -> x.soonest(), x -> x.safe(0), x -> x.safe(1), x -> x.least(2, 0),
+            x -> x.least(2, 1), x -> x.least(0, 1), x -> x.chance(2, 0), x -> x.chance(2, 1),
+            x -> x.chance(2, 2), x -> x.chance(0, 0), x -> x.chance(0, 1), x -> x.chance(0, 2),
+            x -> x.catches(1), x -> x.could(3), x -> x.ways(), x -> x.ask());
+
+    private static TowerPrisoner turned(String text, int turns) {
+        TowerPrisoner x = Check.told(text);
+        for (int i = 0; i < turns; i++) {
+            x.winds(1, 0);
+        }
+        return x;
+    }
+
+    @Says("(Nothing is changed; PACES are always such that ERROR is not beyond -9 .. 9.)")
+    static void allPromises_whatWasAskedAheadIsNothingToAnAnswer() {
+        for (int rest = 4; rest <= 20; rest++) {
+            String text = "d5;d5;b0 1 5 9;b1 0 0 8;h2 1;h1 0;l3;r" + rest + ";";
+            TowerPrisoner forwards = Check.told(text);
+            TowerPrisoner backwards = Check.told(text);
+            for (int turns = 0; turns <= 2; turns++) {
+                String when = "REST " + rest + ", turns " + turns + ", call ";
+                for (int k = 0; k < ADVICE.size(); k++) {
+                    int last = ADVICE.size() - 1 - k;
+                    due(when + k, ADVICE.get(k).applyAsLong(forwards),
+                            ADVICE.get(k).applyAsLong(turned(text, turns)));
+                    due(when + last + " backwards", ADVICE.get(last).applyAsLong(backwards),
+                            ADVICE.get(last).applyAsLong(turned(text, turns)));
+                }
+                forwards.winds(1, 0);
+                backwards.winds(1, 0);
+            }
+        }
     }
 
     // ---- chance

@@ -419,6 +419,22 @@ final class SentenceEdges extends Edges {
         faultAt(7, "b9 1 5 99;");
     }
 
+    @Says("FAULT: the place of the first byte of the first TOKEN that can't stand there "
+            + "(letters that begin no ITEM,")
+    static void promise04_lettersAreNoNumberAndANumberNoLetters() {
+        faultAt(2, "d d;");
+        faultAt(2, "d dd;");
+        faultAt(2, "d a;");
+        faultAt(7, "b0 0 0 zz;");
+        faultAt(0, "1;");
+        // 97 and 98 are the bytes of a and b.
+        faultAt(0, "97 5;");
+        faultAt(0, "98 0 0 0 1;");
+        faultAt(0, "100 5;");
+        faultAt(2, "d ;");
+        faultAt(4, "d1; 1;");
+    }
+
     @Says("a fifteenth day, a seventh bribe, a fifth trade, r, l, a again,")
     static void promise04_oneTooManyIsAFaultOfItsLetters() {
         // At the letters already, whatever stands behind them.
@@ -569,6 +585,24 @@ final class SentenceEdges extends Edges {
         due("the day alone", Check.typed(y, "d1;").sentence(), 1);
         nows(y, 0, 20, 0, 0, 0, 0, 0, 0);
         counts(y, 1, 0, 0, 2, 3, 0, 0, 0);
+    }
+
+    @Says("(Read anew: as told, DAY 0, nothing HEARD or to be UNDONE, IMAGES are gone.)")
+    static void promise04_readAnewWhatWasToldEarlierIsNothing() {
+        String more = "d9;d9;d9;d9;b0 1 0 20;b0 1 0 20;b1 1 0 20;h9 1;h9 1;h9 1;h9 1;";
+        TowerPrisoner x = new TowerPrisoner();
+        for (int i = 0; i < 3; i++) {
+            due("sentence() of more", Check.typed(x, more).sentence(), 11);
+            due("sentence() of more again", Check.typed(x, more).sentence(), 11);
+            due("sentence() of less", Check.typed(x, "d0;d0;b0 1 0 1;h1 1;").sentence(), 4);
+            due("safe(0)", x.safe(0), 1);
+            due("winds(1, 0)", x.winds(1, 0), 0);
+            nows(x, 1, 15, 1, 1, 1, 0, 0, 0);
+            due("pays(1, 1)", x.pays(1, 1), BAD);
+            due("mark(0, 1)", x.mark(0, 1), NO);
+            due("winds(1, 0)", x.winds(1, 0), 0);
+            nows(x, 2, 10, 2, 1, 3, 0, 1, 0);
+        }
     }
 
     // ---- sun, bribe, trade
