@@ -118,7 +118,8 @@ final class AdviceEdges extends Edges {
 
     // ---- chance
 
-    private static void chance(String when, TowerPrisoner x, int n, int upper, int lower, int pace) {
+    private static void chance(String when, TowerPrisoner x, int n, int upper, int lower,
+            int pace) {
         due(when + ": chance(" + n + ", 0)", x.chance(n, 0), upper);
         due(when + ": chance(" + n + ", 1)", x.chance(n, 1), lower);
         due(when + ": chance(" + n + ", 2)", x.chance(n, 2), pace);
@@ -251,7 +252,8 @@ final class AdviceEdges extends Edges {
         chance("REST 99", x, 8, 0, 1, -2);
     }
 
-    @Says("a fraction; the PACE of THE DAY by which it is so, the lowest; NONE (OVER, FREE, n is 0).")
+    @Says("a fraction; the PACE of THE DAY by which it is so, the lowest; "
+            + "NONE (OVER, FREE, n is 0).")
     static void promise15_theLowestPace() {
         int[][] wants = {{8, -2}, {9, -2}, {10, -1}, {11, 0}, {12, 1}, {13, 2}, {14, 3}};
         for (int[] w : wants) {

@@ -3,6 +3,9 @@ final class DoneEdges extends Edges {
     // For each DRAW 0 .. 9 a z that gives it on DAY 0.
     private static final int[] Z_OF_DRAW = {0, 2, 7, 3, 54, 15, 4, 9, 13, 8};
 
+    private static final String UNDONE = "UNDONE: the latest TURNED, WATCHED, PAID, CORRECTED "
+            + "(10 are known, older ones are lost):";
+
     // ---- winds: what is refused
 
     @Says("TURNED by a PACE (-2 .. 3),")
@@ -86,7 +89,8 @@ final class DoneEdges extends Edges {
         refused("FREE and OVER", Edges::freeAndOver, y -> y.winds(0, 0), STATE);
     }
 
-    @Says({"ERROR would not be beyond -9 .. 9:", "ERROR (-9 .. 9: below 0 the clock is slow) is 0,"})
+    @Says({"ERROR would not be beyond -9 .. 9:",
+        "ERROR (-9 .. 9: below 0 the clock is slow) is 0,"})
     static void promise08_errorIsMinus9To9() {
         String text = "d0;d0;r60;";
         for (int pace = -2; pace <= 3; pace++) {
@@ -117,8 +121,7 @@ final class DoneEdges extends Edges {
         due("-9 and -1", at(-9, text).winds(-1, 0), STATE);
     }
 
-    @Says("Refused, and nothing changes, the first of these: BAD (a number is not as told, "
-            + "or there is no such thing), STATE (as told), FULL.")
+    @Says(REFUSED)
     static void promise08_badComesAheadOfState() {
         refused("OVER, pace 4", Edges::over, x -> x.winds(4, 0), BAD);
         refused("OVER, pace -3", Edges::over, x -> x.winds(-3, 0), BAD);
@@ -475,8 +478,7 @@ final class DoneEdges extends Edges {
         due("98 of 98", x.pays(0, 98), 64);
     }
 
-    @Says("Refused, and nothing changes, the first of these: BAD (a number is not as told, "
-            + "or there is no such thing), STATE (as told), FULL.")
+    @Says(REFUSED)
     static void promise10_badComesAheadOfState() {
         refused("t 1 of 1, no CANDLES", () -> at(1, "d0;h1 1;"), x -> x.pays(1, 1), BAD);
         refused("t -1, no CANDLES", () -> at(1, "d0;h1 1;"), x -> x.pays(-1, 1), BAD);
@@ -561,7 +563,7 @@ final class DoneEdges extends Edges {
 
     // ---- undo
 
-    @Says({"UNDONE: the latest TURNED, WATCHED, PAID, CORRECTED (10 are known, older ones are lost):",
+    @Says({UNDONE,
         "`int undo()`: UNDONE: how many more may be. STATE: none."})
     static void promise12_tenAreKnown() {
         refused("undo() of none", TowerPrisoner::new, TowerPrisoner::undo, STATE);
@@ -582,7 +584,7 @@ final class DoneEdges extends Edges {
         }
     }
 
-    @Says("UNDONE: the latest TURNED, WATCHED, PAID, CORRECTED (10 are known, older ones are lost):")
+    @Says(UNDONE)
     static void promise12_the11thLosesTheFirst() {
         TowerPrisoner x = ofDeeds(9);
         due("the 9th undone", x.undo(), 8);
@@ -649,7 +651,7 @@ final class DoneEdges extends Edges {
         nows(x, 1, 5, -2, 0, 0, 0, 1, 0);
     }
 
-    @Says("UNDONE: the latest TURNED, WATCHED, PAID, CORRECTED (10 are known, older ones are lost):")
+    @Says(UNDONE)
     static void promise12_whatWasNotFoundOrChangedNothingIsUndoneToo() {
         TowerPrisoner x = Check.told("d0;b0 1 0 9;h1 1;r9;");
         due("watches, not FOUND", x.watches(), 1);
@@ -662,7 +664,7 @@ final class DoneEdges extends Edges {
         due("CANDLES", x.now(3), 9);
     }
 
-    @Says("UNDONE: the latest TURNED, WATCHED, PAID, CORRECTED (10 are known, older ones are lost):")
+    @Says(UNDONE)
     static void promise12_whatWasRefusedOrAskedIsNotKnown() {
         TowerPrisoner x = Check.told("d0;d0;h1 1;");
         x.winds(4, 0);
@@ -689,7 +691,8 @@ final class DoneEdges extends Edges {
     // ---- now
 
     @Says("`int now(int what)`: 0 THE DAY, 1 REST, 2 ERROR, 3 CANDLES, 4 HARM of all, "
-            + "5 FOUND (how often), 6 whether it is OVER (1, 0), 7 whether he is FREE (1, 0). NO: BAD.")
+            + "5 FOUND (how often), 6 whether it is OVER (1, 0), 7 whether he is FREE (1, 0). "
+            + "NO: BAD.")
     static void promise13_whatIs0To7() {
         refused("now(-1)", Edges::rich, x -> x.now(-1), NO);
         nows(rich(), 2, 32, -3, 24, 5, 1, 0, 0);

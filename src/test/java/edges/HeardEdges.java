@@ -89,8 +89,7 @@ final class HeardEdges extends Edges {
         return heard(1, 0, 3, 2, 0, 3, 3, 0, 3, 4, 0, 3, 5, 0, 3, 6, 0, 3);
     }
 
-    @Says("Refused, and nothing changes, the first of these: BAD (a number is not as told, "
-            + "or there is no such thing), STATE (as told), FULL.")
+    @Says(REFUSED)
     static void promise19_badComesAheadOfFull() {
         refused("day -1", HeardEdges::six, x -> x.hears(-1, 0, 0), BAD);
         refused("day 14", HeardEdges::six, x -> x.hears(14, 0, 0), BAD);

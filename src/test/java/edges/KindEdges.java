@@ -3,7 +3,8 @@ final class KindEdges extends Edges {
     // ---- mark
 
     private static final String KINDS = "KINDS of TRADES are over one another: 0 TRADE; 1 BAKER, "
-            + "2 COURT, 5 HEN (each under TRADE); 3 SWEETHEART (under BAKER); 4 WIFE (under COURT).";
+            + "2 COURT, 5 HEN (each under TRADE); 3 SWEETHEART (under BAKER); "
+            + "4 WIFE (under COURT).";
 
     @Says(KINDS)
     static void promise24_aKindIs0To5() {
@@ -183,8 +184,7 @@ final class KindEdges extends Edges {
         return x;
     }
 
-    @Says("Refused, and nothing changes, the first of these: BAD (a number is not as told, "
-            + "or there is no such thing), STATE (as told), FULL.")
+    @Says(REFUSED)
     static void promise26_badComesAheadOfState() {
         refused("back(-1), none kept", Edges::over, x -> x.back(-1), BAD);
         refused("back(2), none kept", Edges::over, x -> x.back(2), BAD);

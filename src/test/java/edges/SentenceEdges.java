@@ -93,8 +93,7 @@ final class SentenceEdges extends Edges {
         due("clear()", x.clear(), 150);
     }
 
-    @Says("Refused, and nothing changes, the first of these: BAD (a number is not as told, "
-            + "or there is no such thing), STATE (as told), FULL.")
+    @Says(REFUSED)
     static void promise02_badComesAheadOfFull() {
         refused("type(-1)", () -> typed(times(150, "d")), x -> x.type(-1), BAD);
         refused("type(0)", () -> typed(times(150, "d")), x -> x.type(0), FULL);
@@ -468,7 +467,8 @@ final class SentenceEdges extends Edges {
 
     @Says("of a byte that begins none,")
     static void promise04_aByteThatBeginsNone() {
-        for (int c : new int[] {0, 1, 31, 33, 47, 58, 60, 64, 65, 90, 91, 96, 123, 127, 128, 254, 255}) {
+        int[] bytes = {0, 1, 31, 33, 47, 58, 60, 64, 65, 90, 91, 96, 123, 127, 128, 254, 255};
+        for (int c : bytes) {
             faultAt(0, (char) c + "d1;");
             faultAt(1, "d" + (char) c + "1;");
             faultAt(2, "d1" + (char) c + ";");

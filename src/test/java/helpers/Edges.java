@@ -13,6 +13,8 @@ abstract class Edges {
     /** Numbers far beyond all that is told, which no arithmetic may bring back. */
     static final int[] WILD = {Integer.MIN_VALUE, -1000001, -1000000, 1000000, 1 << 30,
         Integer.MAX_VALUE};
+    static final String REFUSED = "Refused, and nothing changes, the first of these: BAD (a number "
+            + "is not as told, or there is no such thing), STATE (as told), FULL.";
     static final String TEN_DAYS = "d0;d0;d0;d0;d0;d0;d0;d0;d0;d0;";
 
     static void due(String call, long got, long want) {
@@ -56,7 +58,8 @@ abstract class Edges {
 
     /** Something of everything: done, to be undone, kept, heard, asked and typed. */
     static TowerPrisoner rich() {
-        TowerPrisoner x = Check.told("d10;d0;d0;d4;b0 1 5 20;b1 0 3 7;b3 0 0 9;h2 1;h3 0;r40;l2;a4;");
+        TowerPrisoner x = Check.told("d10;d0;d0;d4;b0 1 5 20;b1 0 3 7;b3 0 0 9;h2 1;h3 0;r40;"
+                + "l2;a4;");
         x.winds(3, 0);
         x.keep(0);
         x.winds(1, 5);
@@ -124,7 +127,7 @@ abstract class Edges {
                 continue;
             }
             Check.under(tests.getSimpleName() + "." + m.getName());
-            Check.due("a test names its promise and its sentence", named ? 1 : 0, says == null ? 0 : 1);
+            Check.holds("a test names its promise and its sentence", named == (says != null));
             if (says != null) {
                 for (String quote : says.value()) {
                     said.add(new Said(m.getName(), quote));
